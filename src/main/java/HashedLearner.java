@@ -339,8 +339,7 @@ public final class HashedLearner {
                 return false;
             }
             int at = skipSpaces(titleEnd, to);
-            // One round more than a line may have features: that one refuses the line.
-            for (int n = 0; n <= MAX_FEATURES && at < to; n++) {
+            for (int n = 0; n < MAX_FEATURES && at < to; n++) {
                 int end = find(SPACE, at, to);
                 if (!readFeature(at, end, example)) {
                     return false;

@@ -177,6 +177,48 @@ public final class LearnTest {
         }
     }
 
+    private static void ruleOneFurther() {
+        HashedLearner x = learner(0, 1);
+        Check.learn(x, "1 |");
+        x.save(0);
+        Check.learn(x, "-0.93 |");
+        Check.slot("rule 1, back to a small scale", x, CONSTANT, 0, 23225, -8);
+        x.load(0);
+        Check.learn(x, "999.99 |");
+        Check.slot("rule 1, a great pull", x, CONSTANT, 7244, 9995410529L, -145021);
+    }
+
+    private static void greatPredictions() {
+        HashedLearner x = learner(0, 0);
+        Check.learn(x, "1 |");
+        Check.read(x, "| 12:999.99");
+        Check.due("squares, peek()", x.peek(), 49549);
+        x = learner(2, 0);
+        Check.learn(x, "3 |");
+        x.save(0);
+        Check.due("quantile, learn() far below", Check.learn(x, "999.99 |"), 48);
+        Check.due("quantile, loss() far below", x.loss(), 75 + 24987);
+        x.load(0);
+        Check.due("quantile, learn() far above", Check.learn(x, "0 | 12:100"), 4855);
+        Check.due("quantile, loss() far above", x.loss(), 75 + 24987 + 3641);
+    }
+
+    /** What a malformed line said must not come back with the next one. */
+    private static void afterMalformed() {
+        HashedLearner x = learner(0, 0);
+        Check.due("line()", Check.read(x, "9 5| 5 6 7 :"), -1);
+        Check.due("line()", Check.read(x, "1| 3"), 1);
+        Check.due("terms()", x.terms(), 2);
+        Check.due("hash(1)", x.hash(1), 0);
+        x.learn();
+        Check.slot("importance 1", x, CONSTANT, 4950, 10000, 100);
+        Check.due("line()", Check.read(x, "9 5|:"), -1);
+        Check.due("line()", Check.read(x, "|"), 0);
+        x.learn();
+        Check.slot("no label", x, CONSTANT, 4950, 10000, 100);
+        Check.due("loss()", x.loss(), 100);
+    }
+
     private static void limits() {
         HashedLearner x = learner(0, 0);
         Check.learn(x, "999.99 | 0:0.01");
@@ -224,6 +266,9 @@ public final class LearnTest {
         quantile();
         ruleZero();
         ruleOne();
+        ruleOneFurther();
+        greatPredictions();
+        afterMalformed();
         limits();
         greatestWeight("", 100000000);
         greatestWeight("-", -100000000);
