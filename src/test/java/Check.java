@@ -2,14 +2,21 @@
 final class Check {
     private static int asked = 0;
     private static int wrong = 0;
+    private static String sentence = "";
 
     private Check() {
+    }
+
+    /** The words of the document that make the next answers due; they are printed with a wrong one. */
+    static void sentence(String words) {
+        sentence = "[" + words + "] ";
     }
 
     static void due(String what, long got, long want) {
         asked++;
         if (got != want) {
             wrong++;
+            System.out.print(sentence);
             System.out.println(what + " answered " + got + ", due is " + want);
         }
     }

@@ -239,20 +239,6 @@ public final class LearnTest {
         }
     }
 
-    private static void greatestWeight(String sign, int weight) {
-        HashedLearner x = learner(0, 0);
-        for (int n = 0; n < 4; n++) {
-            Check.learn(x, sign + "999.99 5|1:0.01 7 7 7 7");
-        }
-        for (int n = 0; n < 300; n++) {
-            x.pass();
-        }
-        Check.due("the greatest weight", x.weight(8), weight);
-        Check.due("its scale", x.scale(8), 1);
-        x.pass();
-        Check.due("the greatest weight stays", x.weight(8), weight);
-    }
-
     public static void main(String[] args) {
         squares();
         negativeSquares();
@@ -270,8 +256,6 @@ public final class LearnTest {
         greatPredictions();
         afterMalformed();
         limits();
-        greatestWeight("", 100000000);
-        greatestWeight("-", -100000000);
         Check.end();
     }
 }
