@@ -139,6 +139,17 @@ public final class EdgesOfFormTest {
         HashedLearner x = learner();
         Check.learn(x, "1|");
         Check.due("loss() without importance", x.loss(), 100);
+        x = learner();
+        x.save(0);
+        for (int n = 1; n <= 20; n++) {
+            x.load(0);
+            Check.due("line()", Check.read(x, "9 5|:"), -1);
+            Check.learn(x, "1|");
+            Check.due("loss() without importance, where others had one", x.loss(), 600 * n - 500);
+            x.load(0);
+            Check.learn(x, "1 5|");
+            Check.due("loss()", x.loss(), 600 * n);
+        }
         reads(-1, "1 0|", "1 6|", "1 7|", "1 8|", "1 9|", "1 /|", "1 :|", "1 11|", "1 05|", "1 50|", "1 -1|", "1 1.0|", "1 5.|", "1 a|", "1 5a|");
     }
 

@@ -1,7 +1,9 @@
 /** Made-up runs of at most 512 calls, where the program and the Reference must answer the same. */
 public final class RandomRunsTest {
     private static final int RUNS = 4000;
-    private static final int CALLS = 400;
+    // One line more, the crossings and the look at the whole table are still within 512 calls.
+    private static final int CALLS = 300;
+    private static final int LINES = 60000;
     private static final String[] NAMES = {
         "a", "b", "ab", "abc", "abcd", "abcde", "x", "7", "007", "123456789", "1234567890", "0", "-1", "a.b", "~!", "17x"
     };
@@ -30,10 +32,10 @@ public final class RandomRunsTest {
             text.append(pick(3) == 0 ? " " + (1 + pick(5)) : "");
             text.append(pick(2) == 0 ? " " : "");
         }
-        int namespaces = 1 + pick(3);
+        int namespaces = 1 + pick(pick(6) == 0 ? 5 : 3);
         for (int n = 0; n < namespaces; n++) {
             text.append('|').append(pick(4) > 0 ? part() : "");
-            int features = pick(5);
+            int features = pick(pick(12) == 0 ? 14 : 5);
             for (int f = 0; f < features; f++) {
                 text.append(pick(9) == 0 ? "  " : " ").append(part());
             }
@@ -42,7 +44,8 @@ public final class RandomRunsTest {
             int at = pick(text.length() + 1);
             text.insert(at, NOISE.charAt(pick(NOISE.length())));
         }
-        return text.toString();
+        // A few characters too many for a line, but so few that the run stays under 512 calls.
+        return text.substring(0, Math.min(text.length(), 104));
     }
 
     private static int typeLine(String run, HashedLearner x, Reference r) {
@@ -93,7 +96,28 @@ public final class RandomRunsTest {
         }
     }
 
-    public static void main(String[] args) {
+    /** Short lines of few characters, most of them malformed, many of them nearly well formed. */
+    private static void compareLines() {
+        for (int n = 0; n < LINES; n++) {
+            HashedLearner x = new HashedLearner(4, 0, 0);
+            Reference r = new Reference(4, 0, 0);
+            StringBuilder text = new StringBuilder();
+            for (int length = pick(12); length > 0; length--) {
+                char c = NOISE.charAt(pick(NOISE.length()));
+                text.append(c);
+                x.write(c);
+                r.write(c);
+            }
+            String line = "'" + text + "': ";
+            Check.due(line + "line()", x.line(), r.line());
+            Check.due(line + "hash(0)", x.hash(0), r.hash(0));
+            Check.due(line + "value(0)", x.value(0), r.value(0));
+            Check.due(line + "learn()", x.learn(), r.learn());
+            Check.slot(line, x, 12, r.weight(12), r.sum(12), r.scale(12));
+        }
+    }
+
+    private static void compareRuns() {
         for (int n = 0; n < RUNS; n++) {
             int bits = 2 + pick(5);
             int loss = pick(4);
@@ -104,11 +128,16 @@ public final class RandomRunsTest {
             for (int k = pick(4); k > 0; k--) {
                 cross(run, x, r);
             }
-            for (int calls = 0; calls < CALLS - 100; ) {
+            for (int calls = 0; calls < CALLS; ) {
                 calls += ask(run, x, r);
             }
             compareTables(run, x, r);
         }
+    }
+
+    public static void main(String[] args) {
+        compareLines();
+        compareRuns();
         Check.end();
     }
 }
