@@ -202,6 +202,16 @@ public final class EdgesOfFormTest {
         firstValue("| b:7|u:0 a:3", 700);
     }
 
+    private static void malformed() {
+        Check.sentence("A line that is not of this form is MALFORMED");
+        reads(12, "1.5 5 |t:2 a b c d|u:2 e f g h|v:2 i j|w k l");
+        reads(-1, "1.5 5  t:2 a b c d u:2 e f g h v:2 i j w k l", "1.5 5 6 |t:2 a b c d|u:2 e f g h|v:2 i j|w k l",
+            "1.5 6 |t:2 a b c d|u:2 e f g h|v:2 i j|w k l", "1.555 5 |t:2 a b c d|u:2 e f g h|v:2 i j|w k l",
+            "1.5 5 |t:2 a b c d|u:2 e f g h|v:2 i j|w k|l", "1.5 5 |t:2 a b c d|u:2 e f g h|v:2 i j|w k l m",
+            "1.5 5 |t:2 a b c d|u: e f g h|v:2 i j|w k l", "1.5 5 |t:2 a b c d|:2 e f g h|v:2 i j|w k l",
+            "1.5 5 |t:2 a b c d|u:2 e f g h|v:2 i j|w k l:", "1.5 5 |t:2 a b c d|u:2 e f g h|v:2 i j|w k :l");
+    }
+
     private static void refusedWrites() {
         Check.sentence("write: false, changing nothing, if c is not 32 .. 126 or 100 are there");
         HashedLearner x = learner();
@@ -332,6 +342,7 @@ public final class EdgesOfFormTest {
         features();
         names();
         noNumber();
+        malformed();
         refusedWrites();
         fullRing();
         fullRingBeforeForm();

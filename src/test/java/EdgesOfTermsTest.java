@@ -107,6 +107,13 @@ public final class EdgesOfTermsTest {
         values(x, 600, 500, 700, 1100, 4200, 5500, 100);
     }
 
+    private static void clips() {
+        Check.sentence("CLIP(v, m) is v, but -m if v is less than that, and m if it is more");
+        HashedLearner x = learner();
+        Check.read(x, "|t:2 a:499.99 b:500|u c:999.98 d:999.99|v:-2 e:499.99 f:500|w:-1 g:999.98 h:999.99");
+        values(x, 99998, 99999, 99998, 99999, -99998, -99999, -99998, -99999, 100);
+    }
+
     private static void featureValue() {
         Check.sentence("the VALUE CLIP(amount * scale / 100, 99999)");
         HashedLearner x = learner();
@@ -203,7 +210,7 @@ public final class EdgesOfTermsTest {
     }
 
     private static void threeCrossings() {
-        Check.sentence("cross: False, changing nothing, if there are 3");
+        Check.sentence("CROSSINGS, at most 3; cross: False, changing nothing, if there are 3");
         HashedLearner x = learner();
         Check.due("the first", x.cross('a', 'b'), true);
         Check.due("the second", x.cross('c', 'd'), true);
@@ -367,6 +374,7 @@ public final class EdgesOfTermsTest {
         blocks();
         seeds();
         letters();
+        clips();
         featureValue();
         crossingValue();
         sameLetter();
