@@ -1,4 +1,6 @@
+import java.lang.reflect.Field;
 import java.lang.reflect.Member;
+import java.lang.reflect.Method;
 import java.lang.reflect.Modifier;
 import java.util.ArrayList;
 import java.util.Arrays;
@@ -48,6 +50,34 @@ public final class FaceTest {
         }
         for (String member : got) {
             Check.due("the document has " + member, want.contains(member), true);
+        }
+    }
+
+    // LANGUAGE.md, rule 1: no private method bears the name of a public one.
+    private static void privateNames() {
+        TreeSet<String> faceNames = new TreeSet<>();
+        for (Method method : HashedLearner.class.getMethods()) {
+            faceNames.add(method.getName());
+        }
+        for (Class<?> inside : HashedLearner.class.getDeclaredClasses()) {
+            privateNamesOf(inside, faceNames);
+        }
+        privateNamesOf(HashedLearner.class, faceNames);
+    }
+
+    private static void privateNamesOf(Class<?> owner, TreeSet<String> faceNames) {
+        for (Method method : owner.getDeclaredMethods()) {
+            if (!Modifier.isPublic(method.getModifiers())) {
+                Check.due(method + " bears a name of the face", faceNames.contains(method.getName()), false);
+            }
+        }
+    }
+
+    // LANGUAGE.md, rule 5: there is no static state.
+    private static void staticFields() {
+        for (Field field : HashedLearner.class.getDeclaredFields()) {
+            int own = field.getModifiers();
+            Check.due(field + " is static and not final", Modifier.isStatic(own) && !Modifier.isFinal(own), false);
         }
     }
 
@@ -106,6 +136,8 @@ public final class FaceTest {
 
     public static void main(String[] args) {
         members();
+        privateNames();
+        staticFields();
         classes();
         neverThrows();
         Check.end();
